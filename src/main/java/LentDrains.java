@@ -636,7 +636,7 @@ public final class LentDrains {
             river = other.river;
         }
 
-        /** Of its day's share each house lets go its own, and the guest's house so much more. */
+        /** The house that has a guest (NONE: there is none) lets go so much more than by itself. */
         void passDay(Plan plan, int guest, int more) {
             boolean lent = days < plan.lent;
             for (int h = 0; h < plan.houses; h++) {

@@ -105,7 +105,11 @@ public final class DeedsTest {
         CHECK.is("away", x.told(9), 0);
         CHECK.is("aunt(3, 5)", x.aunt(3, 5), 0);
         CHECK.is("aunt(3, 0)", x.aunt(3, 0), 5);
+        CHECK.is("away", x.told(9), 0);
         CHECK.is("to be undone", x.told(12), 8);
+        x.aunt(0, 1);
+        x.aunt(4, 1);
+        CHECK.is("away", x.told(9), 17);
     }
 
     private static void hours() {

@@ -13,6 +13,7 @@ public final class TextTest {
         emptyText();
         faultLeavesAll();
         townBeginsAnew();
+        townsOneBehindTheOther();
         toldOfTheTown();
         housesOfTheTown();
         CHECK.end();
@@ -197,6 +198,26 @@ public final class TextTest {
         CHECK.is("image 1 is gone", x.goBack(1), Check.NOT);
         CHECK.is("nothing to undo", x.undo(1), Check.NOT);
         CHECK.is("the seed stays", x.seed(5), 5);
+    }
+
+    /** Nothing of an earlier town is left in a later one, however many came between. */
+    private static void townsOneBehindTheOther() {
+        LentDrains x = new LentDrains();
+        String[] texts = {
+            "t9 9;h9 9 9;h9 9 0;h9 9 1;h9 9 2;h9 9 3;h9 9 4;h9 9 5;h9 9 6;", "t5 5;h5 5 9;h5 5 9;h5 5 1;", Check.FIVE,
+            "t2 2;h1 1 9;h1 1 9;", "t1 1;", "t3 3;h2 2 9;h3 3 9;h4 4 9;"};
+        for (String text : texts) {
+            Check.feedAll(x, text);
+            x.town();
+            LentDrains alone = Check.townOf(text);
+            CHECK.unchanged("'" + text + "' behind others", x, Check.picture(alone));
+            CHECK.is("lookAt of '" + text + "'", x.lookAt(), alone.lookAt());
+            CHECK.is("fewest of '" + text + "'", x.fewest(), alone.fewest());
+            CHECK.is("held of '" + text + "'", x.held(), alone.held());
+        }
+        x.town();
+        CHECK.unchanged("an empty text behind others", x, Check.picture(new LentDrains()));
+        CHECK.is("hour behind an empty text", x.hour(1), Check.NOT);
     }
 
     private static void toldOfTheTown() {

@@ -84,6 +84,8 @@ public final class TriedTest {
         // 12 too much in house 0; houses 1 and 2 have room for 5 each, house 3 is not joined to it.
         LentDrains x = Check.townOf("t2 5;h0 6 9;h9 2 0;h9 2 0;h9 0 1;");
         CHECK.is("held above", x.held(), 10);
+        LentDrains less = Check.townOf("t2 5;h0 3 9;h9 2 0;h9 2 0;h9 0 1;");
+        CHECK.is("no more than is too much", less.held(), 6);
         // The other way: two houses' 4 too much, 6 of room left below.
         LentDrains y = Check.townOf("t4 5;h10 1 9;h0 1 0;h0 1 0;");
         CHECK.is("held below", y.held(), 6);
