@@ -496,24 +496,18 @@ public final class LentDrains {
             length = 0;
         }
 
-        /** An empty text leaves the plan without a town; behind a fault the plan is worth nothing. */
+        /** A text without a word leaves the plan without a town; behind a fault the plan is worth nothing. */
         void readInto(Plan into) {
             into.clear();
             at = 0;
             faultKind = 0;
             faultAt = NONE;
-            if (length == 0) {
-                return;
-            }
             for (int clause = 0; clause < LETTERS_MOST && faultKind == 0; clause++) {
                 skipBlanks();
                 if (at >= length) {
                     break;
                 }
                 readClause(into);
-            }
-            if (!into.stands) {
-                blame(MISPLACED, length);
             }
         }
 

@@ -78,7 +78,7 @@ final class Model {
             int wanted = clause.equals("t") ? 2 : 3;
             if (clause.isEmpty()) {
                 if (token.isEmpty()) {
-                    return first.isEmpty() ? new int[] {1, place} : null;
+                    return null;
                 }
                 boolean begins = token.equals("t") || token.equals("h") && !first.isEmpty();
                 if (!begins) {
@@ -128,12 +128,12 @@ final class Model {
         text = new StringBuilder();
         List<Integer> first = new ArrayList<>();
         List<int[]> into = new ArrayList<>();
-        int[] fault = all.isEmpty() ? null : read(all, first, into);
+        int[] fault = read(all, first, into);
         faultAt = fault == null ? -1 : fault[1];
         if (fault != null) {
             return -10 - fault[0];
         }
-        stands = !all.isEmpty();
+        stands = !first.isEmpty();
         lent = stands ? first.get(0) : 0;
         pipe = stands ? first.get(1) : 0;
         houses = into;

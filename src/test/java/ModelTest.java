@@ -35,7 +35,7 @@ public final class ModelTest {
     private boolean play() {
         while (calls < CALLS) {
             if (calls == 0 || random.nextInt(150) == 0) {
-                if (!tell(random.nextInt(3) == 0 ? spoilt(town()) : town())) {
+                if (!tell(someText())) {
                     return false;
                 }
             }
@@ -63,6 +63,13 @@ public final class ModelTest {
             System.out.println("run " + run + ", call " + calls + ": " + call + " answered " + got + ", due is " + due);
         }
         return got == due;
+    }
+
+    private String someText() {
+        if (random.nextInt(20) == 0) {
+            return " ".repeat(random.nextInt(4));
+        }
+        return random.nextInt(3) == 0 ? spoilt(town()) : town();
     }
 
     private String town() {

@@ -10,7 +10,7 @@ public final class TextTest {
         badNumbers();
         tooMany();
         leastFaultAtOneLetter();
-        emptyText();
+        textsWithoutAWord();
         faultLeavesAll();
         townBeginsAnew();
         townsOneBehindTheOther();
@@ -99,7 +99,9 @@ public final class TextTest {
         text("t1 1;h1 1 9 9;", -11, 12);
         text("t1 1;hh", -11, 6);
         text("t1 1;" + (char) 0, -11, 5);
-        text("   ", -11, 3);
+        text("  h0 0 9;", -11, 2);
+        text("   t", -11, 4);
+        text(" \t", -11, 1);
     }
 
     private static void badNumbers() {
@@ -141,7 +143,16 @@ public final class TextTest {
         text("t0 0;x", -12, 1);
     }
 
-    private static void emptyText() {
+    private static void textsWithoutAWord() {
+        textWithoutAWord("");
+        textWithoutAWord(" ");
+        textWithoutAWord("   ");
+        textWithoutAWord(" ".repeat(200));
+    }
+
+    /** There is no TOWN behind it, whatever there was ahead of it. */
+    private static void textWithoutAWord(String text) {
+        text(text, 0, Check.NONE);
         LentDrains x = Check.townOf(Check.FIVE);
         x.seed(77);
         x.day(3);
@@ -149,7 +160,10 @@ public final class TextTest {
         x.see(0, true);
         x.write(0, 1);
         x.keep(0);
-        CHECK.is("town of an empty text", x.town(), 0);
+        Check.feedAll(x, "x");
+        CHECK.is("a fault ahead of '" + text + "'", x.town(), -11);
+        Check.feedAll(x, text);
+        CHECK.is("town of '" + text + "' behind a town", x.town(), 0);
         CHECK.is("its fault", x.fault(), Check.NONE);
         for (int what = 0; what <= 12; what++) {
             CHECK.is("no town, told(" + what + ")", x.told(what), 0);
