@@ -11,12 +11,26 @@ final class Check {
 
     private int asked = 0;
     private int wrong = 0;
+    private String where = "";
+
+    /** From here on it is this sentence of the document that is asked for; SentencesTest looks the words up. */
+    void sentence(String part, String words) {
+        where = "[" + part + ": " + words + "] ";
+    }
 
     void is(String call, int got, int due) {
         asked++;
         if (got != due) {
             wrong++;
-            System.out.println(call + " answered " + got + ", due is " + due);
+            System.out.println(where + call + " answered " + got + ", due is " + due);
+        }
+    }
+
+    void same(String what, String got, String due) {
+        asked++;
+        if (!got.equals(due)) {
+            wrong++;
+            System.out.println(where + what + " answered " + got + ", due is " + due);
         }
     }
 
@@ -41,6 +55,22 @@ final class Check {
         return x;
     }
 
+    /** FIVE with something of all that an object can hold but a text; image 1 alone is not kept. */
+    static LentDrains lived() {
+        LentDrains x = townOf(FIVE);
+        x.seed(77);
+        x.drift(2);
+        x.keep(0);
+        x.aunt(3, 2);
+        x.day(1);
+        x.pail(0, 1, 2);
+        x.see(0, true);
+        x.see(1, false);
+        x.write(0, 4);
+        x.write(4, 1);
+        return x;
+    }
+
     /** Every answer that tells of the town, of section 2, of what was seen and of the book. */
     static String picture(LentDrains x) {
         StringBuilder all = new StringBuilder();
@@ -56,12 +86,40 @@ final class Check {
         return all.toString();
     }
 
-    void unchanged(String after, LentDrains x, String before) {
-        String now = picture(x);
-        asked++;
-        if (!now.equals(before)) {
-            wrong++;
-            System.out.println(after + " changed " + before + " to " + now);
+    /**
+     * All that an object holds, what only later calls would show with it: the seed, what can be undone,
+     * images, the text. The object is used up by it.
+     */
+    static String wholePicture(LentDrains x) {
+        StringBuilder all = new StringBuilder(picture(x));
+        all.append(" fault ").append(x.fault()).append(" seed ").append(x.seed(5)).append(" undone");
+        for (int i = x.told(12); i > 0; i--) {
+            all.append(' ').append(x.undo(1)).append(' ').append(x.told(6)).append(' ').append(x.told(9));
         }
+        all.append(" first ").append(x.told(7)).append(' ').append(x.told(8));
+        for (int i = 0; i < 2; i++) {
+            all.append(" image ").append(x.goBack(i)).append(' ').append(x.seed(6)).append(' ').append(picture(x));
+        }
+        all.append(" text ").append(x.town()).append(' ').append(x.fault());
+        for (int h = 0; h < x.told(2); h++) {
+            all.append(' ').append(x.house(h, 0)).append(' ').append(x.house(h, 1)).append(' ').append(x.house(h, 2));
+        }
+        return all.toString();
+    }
+
+    void kept(String when, LentDrains x, int... due) {
+        for (int h = 0; h < due.length; h++) {
+            is(when + ", HOUSE " + h + " KEEPS", x.house(h, 3), due[h]);
+        }
+    }
+
+    void breath(String when, LentDrains x, int... due) {
+        for (int what = 0; what < due.length; what++) {
+            is(when + ", breath(" + what + ")", x.breath(what), due[what]);
+        }
+    }
+
+    void unchanged(String after, LentDrains x, String before) {
+        same("all that is told behind " + after, picture(x), before);
     }
 }

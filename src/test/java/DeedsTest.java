@@ -15,12 +15,6 @@ public final class DeedsTest {
         CHECK.end();
     }
 
-    private static void kept(String when, LentDrains x, int... due) {
-        for (int h = 0; h < due.length; h++) {
-            CHECK.is(when + ", house " + h + " keeps", x.house(h, 3), due[h]);
-        }
-    }
-
     private static void days() {
         LentDrains x = Check.townOf("t3 4;h10 4 9;h0 2 0;h5 0 9;");
         String before = Check.picture(x);
@@ -30,7 +24,7 @@ public final class DeedsTest {
         CHECK.is("day(1)", x.day(1), 4);
         CHECK.is("spilled", x.told(7), 2);
         CHECK.is("day(2)", x.day(2), 10);
-        kept("LENT is over", x, 10, 0, 0);
+        CHECK.kept("LENT is over", x, 10, 0, 0);
         CHECK.is("spilled", x.told(7), 8);
         CHECK.is("the river in LENT", x.told(8), 0);
         CHECK.is("LENT", x.told(5), 0);
@@ -79,7 +73,7 @@ public final class DeedsTest {
         CHECK.unchanged("a refused pail", x, before);
         CHECK.is("pail(0, 1, 8)", x.pail(0, 1, 8), 20);
         CHECK.is("pail(3, 4, 9)", x.pail(3, 4, 9), 15);
-        kept("two pails", x, 1, 20, 3, 9, 15);
+        CHECK.kept("two pails", x, 1, 20, 3, 9, 15);
         CHECK.is("in all", x.told(6), 48);
         CHECK.is("to be undone", x.told(12), 5);
         x.day(10);
@@ -97,11 +91,11 @@ public final class DeedsTest {
         CHECK.is("aunt(1, 1)", x.aunt(1, 1), 0);
         CHECK.is("away", x.told(9), 10);
         x.day(1);
-        kept("one day", x, 3, 0, 1, 0, 2);
+        CHECK.kept("one day", x, 3, 0, 1, 0, 2);
         CHECK.is("away", x.told(9), 8);
         CHECK.is("away yet", x.house(3, 4), 1);
         x.day(2);
-        kept("three days", x, 9, 8, 3, 6, 6);
+        CHECK.kept("three days", x, 9, 8, 3, 6, 6);
         CHECK.is("away", x.told(9), 0);
         CHECK.is("aunt(3, 5)", x.aunt(3, 5), 0);
         CHECK.is("aunt(3, 0)", x.aunt(3, 0), 5);
@@ -118,11 +112,11 @@ public final class DeedsTest {
         CHECK.is("hour(0) in LENT", x.hour(0), Check.OUTSIDE);
         CHECK.is("hour(31)", x.hour(31), Check.OUTSIDE);
         x.day(2);
-        kept("LENT is over", x, 6, 6, 6, 0);
+        CHECK.kept("LENT is over", x, 6, 6, 6, 0);
         x.pail(2, 3, 1);
         CHECK.is("hour(1)", x.hour(1), 13);
         // 4 to the river, 4 and 1 into house 0, 4 into house 1: all at once; 1 spills from house 0.
-        kept("one hour", x, 6, 6, 1, 0);
+        CHECK.kept("one hour", x, 6, 6, 1, 0);
         CHECK.is("spilled", x.told(7), 1);
         CHECK.is("the river", x.told(8), 4);
         CHECK.is("days stay", x.told(4), 2);
@@ -144,7 +138,7 @@ public final class DeedsTest {
         // By hand, from seed 0: 12345 (draw of 3: 0), 1406932606 (of 4: 0: away), 654583775 (of 5: 3),
         // 1449466924 (of 3: 1), 229283573 (of 10: 8).
         CHECK.is("drift(1)", x.drift(1), 13);
-        kept("one day", x, 0, 12, 1);
+        CHECK.kept("one day", x, 0, 12, 1);
         CHECK.is("away yet", x.house(0, 4), 2);
         CHECK.is("the seed", x.seed(229283573), 229283573);
         CHECK.is("to be undone", x.told(12), 1);

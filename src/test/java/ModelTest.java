@@ -57,8 +57,12 @@ public final class ModelTest {
             && same("fault() of '" + text + "'", drains.fault(), model.fault());
     }
 
+    /** What is answered behind the last call that counts is free. */
     private boolean same(String call, int got, int due) {
         calls++;
+        if (calls > CALLS) {
+            return true;
+        }
         if (got != due) {
             System.out.println("run " + run + ", call " + calls + ": " + call + " answered " + got + ", due is " + due);
         }

@@ -106,22 +106,16 @@ public final class TriedTest {
         CHECK.is("held of 6", kept.held(), 0);
     }
 
-    private static void breath(String when, LentDrains x, int... due) {
-        for (int what = 0; what < due.length; what++) {
-            CHECK.is(when + ", breath(" + what + ")", x.breath(what), due[what]);
-        }
-    }
-
     private static void breathing() {
         LentDrains x = Check.townOf("t9 4;h6 3 9;h8 3 0;h9 3 1;h2 1 0;");
-        breath("nothing kept", x, 0, 0, 0, 0);
+        CHECK.breath("nothing kept", x, 0, 0, 0, 0);
         x.day(2);
         // 6, 6, 6, 2: hour 1: 8 in house 0, 2 spill; then 6 6 2 0; 6 4 0 0; 6 0 0 0; 2; 0.
         String before = Check.picture(x);
-        breath("in LENT", x, 5, 2, 6, 0);
+        CHECK.breath("in LENT", x, 5, 2, 6, 0);
         CHECK.unchanged("breath", x, before);
         x.aunt(0, 3);
-        breath("one away", x, 5, 2, 6, 0);
+        CHECK.breath("one away", x, 5, 2, 6, 0);
         x.undo(1);
         x.day(1);
         // 6, 8, 9, 2: the greatest is in house 2 now.
@@ -129,30 +123,30 @@ public final class TriedTest {
         CHECK.is("whose", x.breath(3), 2);
         CHECK.is("breath(-1)", x.breath(-1), Check.OUTSIDE);
         CHECK.is("breath(4)", x.breath(4), Check.OUTSIDE);
-        breath("without houses", Check.townOf("t1 1;"), -1, -1, -1, -1);
-        breath("without a town", new LentDrains(), -1, -1, -1, -1);
+        CHECK.breath("without houses", Check.townOf("t1 1;"), -1, -1, -1, -1);
+        CHECK.breath("without a town", new LentDrains(), -1, -1, -1, -1);
         CHECK.is("breath(4) without houses", new LentDrains().breath(4), Check.OUTSIDE);
         LentDrains late = Check.townOf("t3 5;h7 0 9;h7 7 0;h5 0 1;");
         late.day(1);
         late.pail(1, 2, 2);
         // 0, 5, 2: later 5 stands in house 0, too, but house 1 had it in an earlier hour.
-        breath("of like ones the first hour", late, 3, 0, 5, 1);
+        CHECK.breath("of like ones the first hour", late, 3, 0, 5, 1);
     }
 
     private static void breathOfManyHours() {
         LentDrains x = Check.townOf("t60 1;h999 99 9;");
         x.day(11);
-        breath("999 hours", x, 999, 0, 999, 0);
+        CHECK.breath("999 hours", x, 999, 0, 999, 0);
         LentDrains y = Check.townOf("t60 1;h999 99 9;h999 1 0;");
         y.day(11);
         // 999 and 11: as long as house 1 drains, house 0 stays as it is.
-        breath("1010 hours", y, -1, 0, 999, 0);
+        CHECK.breath("1010 hours", y, -1, 0, 999, 0);
         LentDrains z = Check.townOf("t60 1;h0 0 9;h999 99 0;");
         z.day(30);
-        breath("all of it spills", z, 999, 999, 999, 1);
+        CHECK.breath("all of it spills", z, 999, 999, 999, 1);
         LentDrains two = Check.townOf("t60 1;h0 0 9;h999 99 0;h999 99 1;");
         two.day(30);
-        breath("what 999 hours spill", two, -1, 999, 999, 1);
+        CHECK.breath("what 999 hours spill", two, -1, 999, 999, 1);
     }
 
     private static void pulling() {
