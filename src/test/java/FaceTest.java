@@ -22,6 +22,8 @@ public final class FaceTest {
         "::", "\\bThread\\b", "\\bRandom\\b", "Math\\.random", "\\w+Exact\\b", "\\bSystem\\.(?!arraycopy\\b)",
         "\\bdouble\\b", "\\bfloat\\b", "[^\\x00-\\x7f]"};
     private static final int LINES_MOST = 60;
+    private static final int FIELDS_MOST = 20;
+    private static final int PARAMETERS_MOST = 7;
 
     private static final Check CHECK = new Check();
 
@@ -30,8 +32,10 @@ public final class FaceTest {
         members();
         String source = Files.readString(Path.of(System.getProperty("lentdrains.source", "src/main/java/LentDrains.java")));
         String code = source.replaceAll("(?s)/\\*.*?\\*/", "").replaceAll("//[^\n]*", "");
+        faceOfTheDocument(source);
         forbiddenWords(code);
         staticFieldsAreFinal();
+        smallClasses();
         shortMethods(code);
         CHECK.end();
     }
@@ -62,6 +66,30 @@ public final class FaceTest {
             }
         }
         CHECK.is("missing of the face: " + due, due.size(), 0);
+    }
+
+    /** Line by line as the document tells it, in its order, each group behind its heading. */
+    private static void faceOfTheDocument(String source) throws IOException {
+        String doc = Files.readString(Path.of(System.getProperty("lentdrains.doc", "../shared/DOC.md")));
+        Matcher block = Pattern.compile("(?s)## The public face\\s+```java\n(.*?)```").matcher(doc);
+        int at = 0;
+        for (String line : block.find() ? block.group(1).split("\n") : new String[0]) {
+            if (line.startsWith("    public ")) {
+                String due = line.contains("=") ? line : line.replace(");", ") {");
+                int found = source.indexOf("\n" + due + "\n", at);
+                CHECK.is("behind those ahead of it the class has" + line, found >= at ? 1 : 0, 1);
+                at = Math.max(at, found);
+            }
+        }
+        CHECK.is("the document has a face", at > 0 ? 1 : 0, 1);
+        Matcher group = Pattern.compile("Ahead of the calls `(\\w+)`[^:]*: (---- [^.]*)\\.").matcher(doc);
+        int groups = 0;
+        while (group.find()) {
+            String due = "    // " + group.group(2) + "\n\n    public int " + group.group(1) + "(";
+            CHECK.is("'" + group.group(2) + "' stands ahead of " + group.group(1), source.contains(due) ? 1 : 0, 1);
+            groups++;
+        }
+        CHECK.is("groups of calls", groups, 5);
     }
 
     private static void members() {
@@ -95,6 +123,25 @@ public final class FaceTest {
                 boolean fine = !Modifier.isStatic(f.getModifiers()) || Modifier.isFinal(f.getModifiers());
                 CHECK.is(c.getName() + "." + f.getName() + " is no static variable", fine ? 1 : 0, 1);
             }
+        }
+    }
+
+    private static void smallClasses() {
+        smallClass(LentDrains.class);
+        for (Class<?> c : LentDrains.class.getDeclaredClasses()) {
+            smallClass(c);
+        }
+    }
+
+    private static void smallClass(Class<?> c) {
+        int fields = 0;
+        for (Field f : c.getDeclaredFields()) {
+            fields += Modifier.isStatic(f.getModifiers()) ? 0 : 1;
+        }
+        CHECK.is(c.getName() + " has more than twenty fields", fields > FIELDS_MOST ? 1 : 0, 0);
+        for (Method m : c.getDeclaredMethods()) {
+            boolean many = m.getParameterCount() > PARAMETERS_MOST;
+            CHECK.is(c.getName() + "." + m.getName() + " has more than seven parameters", many ? 1 : 0, 0);
         }
     }
 
